@@ -46,6 +46,17 @@ final class Run {
         }
     }
 
+    /** A test of its own for one sentence of the document: one that asks nothing has failed too. */
+    static void sentence(String sentence, Runnable test) {
+        int askedBefore = asked;
+        int wrongBefore = wrong;
+        test.run();
+        if (asked == askedBefore) {
+            wrong++;
+        }
+        System.out.println((wrong == wrongBefore ? "  holds   " : "  BROKEN  ") + sentence);
+    }
+
     /** To be called last in main: a test that asked nothing has failed too. */
     static void finish() {
         System.out.println(asked + " answers asked, " + wrong + " wrong");
@@ -109,9 +120,39 @@ final class Run {
 
     /** Adds nothing to account 0 so often: a short way to use blocks of the journal. */
     Run fill(int times) {
+        return addOften(times, 1, 0);
+    }
+
+    /** Adds 1 to account 0 so often, in a group that has begun. */
+    Run fillGroup(int times) {
+        return addOften(times, 0, 1);
+    }
+
+    private Run addOften(int times, int due, long v) {
         for (int i = 0; i < times; i++) {
-            add(1, 0, 0);
+            add(due, 0, v);
         }
         return this;
+    }
+
+    /** What the accounts from 0 on have. */
+    Run amounts(long... due) {
+        for (int i = 0; i < due.length; i++) {
+            amount(due[i], i);
+        }
+        return this;
+    }
+
+    /** How often the accounts from 0 on were changed. */
+    Run changed(int... due) {
+        for (int i = 0; i < due.length; i++) {
+            changes(due[i], i);
+        }
+        return this;
+    }
+
+    /** Blocks of the journal used, blocks written, changes in the group, snapshots made. */
+    Run counts(int used, int written, int group, int snapshots) {
+        return count(used, 0).count(written, 1).count(group, 2).count(snapshots, 3);
     }
 }
